@@ -9,6 +9,7 @@ public final class FoldedLetters {
     private static final int POSITIONS = 4;
     private static final int CREASES = 4;
     private static final int LONGEST_WORD = 16;
+    private static final int LONGEST_PERIOD = 8;
     private static final int LONGEST_ASKED = 20;
     private static final int MOST_CREASES_TOLD = 1000;
 
@@ -47,14 +48,9 @@ public final class FoldedLetters {
         Letter folded = pile.at(letter);
         needWord();
         history.push(pile);
-        unrolled.read(buffer);
-        buffer.clear();
-        int done = 0;
-        while (done < unrolled.held() && folded.reasonAgainst(unrolled.creaseAt(done)) == 0) {
-            folded.foldOver(unrolled.creaseAt(done));
-            done++;
-        }
-        return done;
+        unrolled.read(buffer.codes());
+        buffer.codes().clear();
+        return folded.foldUpTo(unrolled.held());
     }
 
     public int unfold(int letter) throws IndexOutOfBoundsException, IllegalStateException {
@@ -120,16 +116,16 @@ public final class FoldedLetters {
         if (code < 33 || code > 126) {
             throw new IllegalArgumentException("no such character");
         }
-        if (buffer.isFull()) {
+        if (buffer.codes().isFull()) {
             throw new IllegalStateException("the buffer is full");
         }
-        buffer.add(code);
-        return buffer.size();
+        buffer.codes().add(code);
+        return buffer.codes().size();
     }
 
     public int clearBuffer() {
-        int before = buffer.size();
-        buffer.clear();
+        int before = buffer.codes().size();
+        buffer.codes().clear();
         return before;
     }
 
@@ -139,7 +135,7 @@ public final class FoldedLetters {
 
     public int creases() throws IllegalArgumentException {
         needWord();
-        unrolled.read(buffer);
+        unrolled.read(buffer.codes());
         return Math.min(unrolled.size(), MOST_CREASES_TOLD);
     }
 
@@ -185,7 +181,7 @@ public final class FoldedLetters {
     public int crease(int letter, int place) throws IndexOutOfBoundsException {
         Letter told = pile.at(letter);
         needPlace(place);
-        return told.creaseAt(place);
+        return told.remembered().at(place);
     }
 
     public int least(int letter, int place) throws IndexOutOfBoundsException {
@@ -271,7 +267,8 @@ public final class FoldedLetters {
         hash = mixed(hash, Bits.ofDouble(pressed()));
         hash = mixed(hash, Bits.ofFloat(meanLength()));
         hash = mixed(hash, snapshotTaken ? 1 : 0);
-        return mixedBuffer(hash);
+        hash = mixed(hash, buffer.codes().size());
+        return mixedRow(hash, buffer.codes());
     }
 
     private static long mixed(long hash, long value) {
@@ -286,7 +283,8 @@ public final class FoldedLetters {
         for (int what = 0; what <= LAST_NUMBER; what++) {
             hash = mixed(hash, letter(letter, what));
         }
-        hash = mixedWords(hash, letter);
+        hash = mixedRow(hash, pile.at(letter).remembered());
+        hash = mixedLeastWord(hash, pile.at(letter).lie());
         for (int crease = 0; crease < CREASES; crease++) {
             hash = mixed(hash, why(letter, crease));
         }
@@ -299,23 +297,19 @@ public final class FoldedLetters {
         return mixed(hash, nearest(letter));
     }
 
-    private long mixedWords(long before, int letter) {
+    private static long mixedRow(long before, Row row) {
         long hash = before;
-        int remembered = letter(letter, REMEMBERED);
-        for (int place = 0; place < remembered; place++) {
-            hash = mixed(hash, crease(letter, place));
-        }
-        int length = letter(letter, LENGTH);
-        for (int place = 0; place < length; place++) {
-            hash = mixed(hash, least(letter, place));
+        for (int place = 0; place < row.size(); place++) {
+            hash = mixed(hash, row.at(place));
         }
         return hash;
     }
 
-    private long mixedBuffer(long before) {
-        long hash = mixed(before, buffer.size());
-        for (int index = 0; index < buffer.size(); index++) {
-            hash = mixed(hash, buffer.codeAt(index));
+    private static long mixedLeastWord(long before, int lie) {
+        long hash = before;
+        int length = Lie.length(lie);
+        for (int place = 0; place < length; place++) {
+            hash = mixed(hash, Lie.leastCrease(lie, place));
         }
         return hash;
     }
@@ -481,7 +475,7 @@ public final class FoldedLetters {
         static int period(int lie) {
             int power = lie;
             int times = 1;
-            while (times < LONGEST_WORD && power != FLAT) {
+            while (times < LONGEST_PERIOD && power != FLAT) {
                 power = joined(power, lie);
                 times++;
             }
@@ -505,29 +499,68 @@ public final class FoldedLetters {
         }
 
         /**
-         * The mirrors turn over one layer at home, or let two layers change places, both turned
-         * over or neither; of all that leave two layers or more at home these alone have an odd
-         * length.
+         * A mirror turns over one layer that stays in its place, or lets two change places, both
+         * of them turned over or neither. Of all lies with two layers or more at home, these are
+         * the ones whose length is odd.
          */
         static boolean isMirror(int lie) {
             return layersHome(lie) >= POSITIONS - 2 && (length(lie) & 1) == 1;
         }
     }
 
-    private static final class Letter {
-        private static final int MOST_REMEMBERED = 60;
+    /** Numbers in their order; the document has 60 as the most of each row that is kept. */
+    private static final class Row {
+        private static final int MOST = 60;
 
-        private final int[] row = new int[MOST_REMEMBERED];
-        private int remembered;
+        private final int[] values = new int[MOST];
+        private int size;
+
+        int size() {
+            return size;
+        }
+
+        boolean isFull() {
+            return size >= values.length;
+        }
+
+        int at(int place) {
+            return place >= 0 && place < size && place < values.length ? values[place] : NONE;
+        }
+
+        /** Beyond the most a value is left out. */
+        void add(int value) {
+            if (size >= 0 && size < values.length) {
+                values[size] = value;
+                size++;
+            }
+        }
+
+        void dropLast() {
+            if (size > 0) {
+                size--;
+            }
+        }
+
+        void clear() {
+            size = 0;
+        }
+
+        void copy(Row other) {
+            clear();
+            for (int place = 0; place < other.size && place < values.length; place++) {
+                add(other.at(place));
+            }
+        }
+    }
+
+    private static final class Letter {
+        private final Row remembered = new Row();
         private int lie = Lie.FLAT;
         private int seals;
         private int folds;
 
         void copy(Letter other) {
-            for (int place = 0; place < row.length && place < other.remembered; place++) {
-                row[place] = other.creaseAt(place);
-            }
-            remembered = other.remembered;
+            remembered.copy(other.remembered);
             lie = other.lie;
             seals = other.seals;
             folds = other.folds;
@@ -537,16 +570,16 @@ public final class FoldedLetters {
             return lie;
         }
 
-        int creaseAt(int place) {
-            return place >= 0 && place < remembered && place < row.length ? row[place] : NONE;
+        Row remembered() {
+            return remembered;
         }
 
         int latestCrease() {
-            return creaseAt(remembered - 1);
+            return remembered.at(remembered.size() - 1);
         }
 
         int reasonAgainst(int crease) {
-            if (remembered >= MOST_REMEMBERED) {
+            if (remembered.isFull()) {
                 return 1;
             }
             return touchesSeal(crease) ? 2 : 0;
@@ -560,27 +593,29 @@ public final class FoldedLetters {
         void foldOver(int crease) {
             lie = Lie.folded(lie, crease);
             folds++;
-            remember(crease);
+            remembered.add(crease);
+        }
+
+        int foldUpTo(Row creases) {
+            int done = 0;
+            while (done < creases.size() && reasonAgainst(creases.at(done)) == 0) {
+                foldOver(creases.at(done));
+                done++;
+            }
+            return done;
         }
 
         void takeBack(int latest) {
             lie = Lie.folded(lie, latest);
             folds++;
-            remembered--;
-        }
-
-        private void remember(int crease) {
-            if (remembered >= 0 && remembered < row.length) {
-                row[remembered] = crease;
-                remembered++;
-            }
+            remembered.dropLast();
         }
 
         void rememberLeastWord() {
             int length = Lie.length(lie);
-            remembered = 0;
+            remembered.clear();
             for (int place = 0; place < length; place++) {
-                remember(Lie.leastCrease(lie, place));
+                remembered.add(Lie.leastCrease(lie, place));
             }
         }
 
@@ -614,7 +649,7 @@ public final class FoldedLetters {
             switch (what) {
                 case LENGTH: return Lie.length(lie);
                 case 1: return Lie.foldsBack(lie);
-                case REMEMBERED: return remembered;
+                case REMEMBERED: return remembered.size();
                 case 3: return Lie.period(lie);
                 case MIRROR: return Lie.isMirror(lie) ? 1 : 0;
                 case 5: return Lie.layersHome(lie);
@@ -739,48 +774,26 @@ public final class FoldedLetters {
     }
 
     private static final class Text {
-        private static final int MOST_CHARACTERS = 60;
-
-        private final int[] codes = new int[MOST_CHARACTERS];
+        private final Row codes = new Row();
         private final Reader reader = new Reader();
-        private int size;
 
-        int size() {
-            return size;
-        }
-
-        boolean isFull() {
-            return size >= codes.length;
-        }
-
-        void add(int code) {
-            if (size >= 0 && size < codes.length) {
-                codes[size] = code;
-                size++;
-            }
-        }
-
-        void clear() {
-            size = 0;
-        }
-
-        int codeAt(int index) {
-            return index >= 0 && index < size && index < codes.length ? codes[index] : NONE;
+        Row codes() {
+            return codes;
         }
 
         /** Leaves the reader behind the last character that it took. */
         int firstBad() {
             reader.start();
-            for (int index = 0; index < size; index++) {
-                if (!reader.takes(codeAt(index))) {
+            for (int index = 0; index < codes.size(); index++) {
+                if (!reader.takes(codes.at(index))) {
                     return index;
                 }
             }
-            return size;
+            return codes.size();
         }
 
         boolean isWord() {
-            return firstBad() == size && reader.mayStop();
+            return firstBad() == codes.size() && reader.mayStop();
         }
     }
 
@@ -826,23 +839,18 @@ public final class FoldedLetters {
     }
 
     /**
-     * A complete word without its brackets. Its size is told whole, but only as many of its
-     * creases are held as a letter can remember: no more of them can ever be folded.
+     * A complete word without its brackets. Its size is told whole, but only the creases that a
+     * row can take are held: a letter remembers no more, and so no more of them can be folded.
      */
     private static final class Unrolled {
-        private final int[] row = new int[Letter.MOST_REMEMBERED];
+        private final Row held = new Row();
         private final int[] heldBefore = new int[Reader.DEEPEST];
         private final int[] sizeBefore = new int[Reader.DEEPEST];
         private int open;
-        private int held;
         private int size;
 
-        int held() {
+        Row held() {
             return held;
-        }
-
-        int creaseAt(int place) {
-            return place >= 0 && place < held && place < row.length ? row[place] : NONE;
         }
 
         /** Below 60 times 9 to the power 5 for 60 characters, and so never too large. */
@@ -850,33 +858,26 @@ public final class FoldedLetters {
             return size;
         }
 
-        void read(Text text) {
+        void read(Row codes) {
             open = 0;
-            held = 0;
             size = 0;
-            for (int index = 0; index < text.size(); index++) {
-                int code = text.codeAt(index);
-                if (text.codeAt(index - 1) == ')') {
+            held.clear();
+            for (int index = 0; index < codes.size(); index++) {
+                int code = codes.at(index);
+                if (codes.at(index - 1) == ')') {
                     repeatLast(code - '0');
                 } else if (code == '(') {
                     openBracket();
                 } else if (code != ')') {
                     size++;
-                    hold(code - '0');
+                    held.add(code - '0');
                 }
-            }
-        }
-
-        private void hold(int crease) {
-            if (held >= 0 && held < row.length) {
-                row[held] = crease;
-                held++;
             }
         }
 
         private void openBracket() {
             if (open >= 0 && open < heldBefore.length && open < sizeBefore.length) {
-                heldBefore[open] = held;
+                heldBefore[open] = held.size();
                 sizeBefore[open] = size;
                 open++;
             }
@@ -888,9 +889,9 @@ public final class FoldedLetters {
             }
             open--;
             size += (size - sizeBefore[open]) * (times - 1);
-            int body = held - heldBefore[open];
-            for (int left = body * (times - 1); left > 0 && held < row.length; left--) {
-                hold(creaseAt(held - body));
+            int body = held.size() - heldBefore[open];
+            for (int left = body * (times - 1); left > 0 && !held.isFull(); left--) {
+                held.add(held.at(held.size() - body));
             }
         }
     }

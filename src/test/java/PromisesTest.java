@@ -743,6 +743,10 @@ public final class PromisesTest {
         x.smooth(3);
         x.word(3);
         checks.due("nearest to one far away", () -> x.nearest(3), 0);
+        fresh();
+        type("(0123)4");
+        x.word(0);
+        checks.due("nearest where all are as far as can be", () -> x.nearest(0), 1);
         checks.outOfBounds("nearest(-1)", () -> x.nearest(-1));
         checks.outOfBounds("nearest(5)", () -> x.nearest(5));
     }
