@@ -12,6 +12,9 @@ public final class FoldedLetters {
     private static final int LONGEST_PERIOD = 8;
     private static final int LONGEST_ASKED = 20;
     private static final int MOST_CREASES_TOLD = 1000;
+    private static final int FIRST_CODE = 33;
+    private static final int LAST_CODE = 126;
+    private static final long HASH_START = 3733L;
 
     private static final int LENGTH = 0;
     private static final int REMEMBERED = 2;
@@ -113,7 +116,7 @@ public final class FoldedLetters {
     // ---- texts, the snapshot
 
     public int append(int code) throws IllegalArgumentException, IllegalStateException {
-        if (code < 33 || code > 126) {
+        if (code < FIRST_CODE || code > LAST_CODE) {
             throw new IllegalArgumentException("no such character");
         }
         if (buffer.codes().isFull()) {
@@ -255,7 +258,7 @@ public final class FoldedLetters {
     }
 
     public long digest() {
-        long hash = 3733;
+        long hash = HASH_START;
         for (int what = 0; what <= LAST_COUNT; what++) {
             hash = mixed(hash, count(what));
         }
@@ -482,10 +485,11 @@ public final class FoldedLetters {
             return times;
         }
 
+        /** Not by isHome(), as calls go at most eight deep, and this one is deep below digest(). */
         static int layersHome(int lie) {
             int found = 0;
             for (int position = 0; position < POSITIONS; position++) {
-                found += isHome(lie, position) ? 1 : 0;
+                found += layerAt(lie, position) == position + 1 ? 1 : 0;
             }
             return found;
         }

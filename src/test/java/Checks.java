@@ -4,6 +4,7 @@ import java.util.function.LongSupplier;
 final class Checks {
     private int passed = 0;
     private int failed = 0;
+    private String test = "";
 
     /** The answer of a call as a text: a number, or the exception's name behind "throws.". */
     static String answer(LongSupplier call) {
@@ -14,20 +15,29 @@ final class Checks {
         }
     }
 
+    /** What is checked from here on belongs to this test. */
+    void begin(String name) {
+        test = name + ": ";
+    }
+
     void due(String what, LongSupplier call, long want) {
         same(what, answer(call), Long.toString(want));
     }
 
+    void due(String what, LongSupplier call, String want) {
+        same(what, answer(call), want);
+    }
+
     void outOfBounds(String what, LongSupplier call) {
-        same(what, answer(call), "throws.IndexOutOfBoundsException");
+        due(what, call, Bench.OUT_OF_BOUNDS);
     }
 
     void badArgument(String what, LongSupplier call) {
-        same(what, answer(call), "throws.IllegalArgumentException");
+        due(what, call, Bench.BAD_ARGUMENT);
     }
 
     void badState(String what, LongSupplier call) {
-        same(what, answer(call), "throws.IllegalStateException");
+        due(what, call, Bench.BAD_STATE);
     }
 
     boolean same(String what, String got, String want) {
@@ -36,7 +46,7 @@ final class Checks {
             passed++;
         } else {
             failed++;
-            System.out.println(what + ": answered " + got + ", due is " + want);
+            System.out.println(test + what + ": answered " + got + ", due is " + want);
         }
         return right;
     }

