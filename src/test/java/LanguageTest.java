@@ -23,7 +23,8 @@ public final class LanguageTest {
         "getMessage", "Throwable", "catch (Exception", "ArrayIndexOutOfBounds", "NullPointer",
         "ClassCastException", "NegativeArraySize", "ArrayStoreException", "System.out", "System.nano",
         "System.current", "System.identity"};
-    private static final String IMPORTS = "import java\\.util\\.(ArrayList|List|Arrays|Iterator|NoSuchElementException);";
+    private static final String IMPORTS =
+        "import java\\.util\\.(ArrayList|List|Arrays|Iterator|NoSuchElementException);";
     private static final int SOME_SIXTY_LINES = 70;
 
     /** The room of a run: so many objects and arrays, and so many fields and elements. */
